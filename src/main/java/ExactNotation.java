@@ -47,16 +47,11 @@ public final class ExactNotation {
 
     private int present(int kind, int p, boolean groups, boolean point, long bits, Format format) {
         result.clear();
-        if (format.isFinite(bits)) {
-            value.assign(format.coefficient(bits), format.power(bits));
-            writeNumber(kind, p, groups, point);
-        } else {
+        if (!format.isFinite(bits)) {
             result.addAll(format.isInfinity(bits) ? "Infinity" : "NaN");
+            return result.length();
         }
-        return result.length();
-    }
-
-    private void writeNumber(int kind, int p, boolean groups, boolean point) {
+        value.assign(format.coefficient(bits), format.power(bits));
         if (kind == SCIENTIFIC) {
             value.roundAt(value.leadingPlace() - p);
             writeScientific(p, point);
@@ -66,6 +61,7 @@ public final class ExactNotation {
         } else {
             writeShorter(Math.max(p, 1), groups);
         }
+        return result.length();
     }
 
     /**
