@@ -2,8 +2,14 @@
 final class Checks {
     private static int made = 0;
     private static int wrong = 0;
+    private static String sentence = "";
 
     private Checks() {
+    }
+
+    /** Which words of the document the checks from here on are of; told with each wrong answer. */
+    static void sentence(String words) {
+        sentence = "[" + words + "] ";
     }
 
     static void same(String call, long got, long due) {
@@ -14,7 +20,7 @@ final class Checks {
         made++;
         if (!got.equals(due)) {
             wrong++;
-            System.out.println(call + " answered " + got + ", due is " + due);
+            System.out.println(sentence + call + " answered " + got + ", due is " + due);
         }
     }
 
@@ -63,6 +69,20 @@ final class Checks {
         result(call, x, x.showFloat(kind, p, groups, point, bits), due);
     }
 
+    /** What holds of doubles and floats alike: the same number as either. */
+    static void both(int kind, int p, boolean groups, boolean point, float value, String due) {
+        show(kind, p, groups, point, value, due);
+        showFloat(kind, p, groups, point, value, due);
+    }
+
+    static void bothRefuse(int kind, int p) {
+        double[] numbers = {0.0, -1.5, Double.POSITIVE_INFINITY, Double.NaN};
+        for (double number : numbers) {
+            refusesShow(new ExactNotation(), kind, p, Double.doubleToRawLongBits(number));
+            refusesShowFloat(new ExactNotation(), kind, p, Float.floatToRawIntBits((float) number));
+        }
+    }
+
     static void refusesShow(ExactNotation x, int kind, int p, long bits) {
         String thrown = "nothing";
         try {
@@ -91,6 +111,15 @@ final class Checks {
             thrown = e.getClass().getSimpleName();
         }
         same(call + " (" + i + ") throws", thrown, "IndexOutOfBoundsException");
+    }
+
+    /** The eight bytes of a text from start on as word tells them. */
+    static long wordOf(String text, int start) {
+        long word = 0;
+        for (int i = start; i < start + 8; i++) {
+            word = word * 256 + (i < text.length() ? text.charAt(i) : 0);
+        }
+        return word;
     }
 
     static void end() {

@@ -1,6 +1,7 @@
 /** Promise 1: the result of a new object is empty. */
 final class NewObjectTest {
     public static void main(String[] args) {
+        Checks.sentence("THE RESULT is empty");
         int[] places = {0, 1, 7, 8, 1611, 1612, 1 << 20, Integer.MAX_VALUE, -1, -8, Integer.MIN_VALUE};
         for (int i : places) {
             Checks.refusesWord("new object, word", new ExactNotation(), i);
@@ -14,6 +15,7 @@ final class NewObjectTest {
         ExactNotation x = new ExactNotation();
         Checks.refusesShow(x, 3, 0, 0L);
         Checks.refusesShowFloat(x, 0, 1201, 0);
+        Checks.refusesWord("empty, word", x, 0);
         Checks.refusesWord("after refused calls, word", x, 0);
     }
 

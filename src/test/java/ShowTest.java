@@ -182,6 +182,10 @@ final class ShowTest {
 
     private static void laterCallsForgetEarlierOnes() {
         ExactNotation x = new ExactNotation();
+        x.show(1, 60, false, false, Double.doubleToRawLongBits(0.1));
+        Checks.show(x, 1, 60, false, false, Double.doubleToRawLongBits(0.25), "0.25" + "0".repeat(58));
+        x.showFloat(1, 60, false, false, Float.floatToRawIntBits(0.7f));
+        Checks.showFloat(x, 0, 60, false, false, Float.floatToRawIntBits(0.25f), "2.5" + "0".repeat(59) + "e-01");
         x.show(1, 1200, true, true, Double.doubleToRawLongBits(GREATEST));
         x.show(1, 1200, true, true, Double.doubleToRawLongBits(Math.nextDown(Double.MIN_NORMAL)));
         Checks.show(x, 1, 20, true, true, Double.doubleToRawLongBits(3.0), "3." + "0".repeat(20));
