@@ -156,7 +156,8 @@ final class TermsTest {
         ExactNotation x = new ExactNotation();
         for (int call = 1; call <= 512; call += 4) {
             String due = call + ".50";
-            Checks.same("call " + call, x.show(1, 2, false, false, Double.doubleToRawLongBits(call + 0.5)), due.length());
+            long bits = Double.doubleToRawLongBits(call + 0.5);
+            Checks.same("call " + call, x.show(1, 2, false, false, bits), due.length());
             Checks.refusesShow(x, 3, 0, 0L);
             Checks.refusesWord("call " + (call + 2), x, 6);
             Checks.same("call " + (call + 3), x.word(0), Checks.wordOf(due, 0));
